@@ -6,9 +6,9 @@ public final class StandUpBook {
     public static final int NONE = -1, BAD = -2, NO = -3, FULL = -4;
 
     private static final int NOT_SO_MANY = -5;
-    // Where -2 could be taken for an answer, BAD is told by this number.
+    // tour and seats tell BAD by a number of their own; it counts as BAD all the same.
     private static final int BAD_ELSEWHERE = -10;
-    private static final int READ_NOTHING = -10;
+    private static final int FAULT_AT_0 = -10;
 
     private static final int FLAT = 12;
     private static final int HALF_OPEN = 6;
@@ -618,18 +618,22 @@ public final class StandUpBook {
     private int mostAlike(int fit, int tall, int o, int tab) {
         int most = 0;
         for (int one = 0; one < KINDS; one++) {
-            int alike = 0;
-            int rise = now.page.kinds[one].riseOf(tall, o, tab);
-            for (int other = 0; other < KINDS; other++) {
-                if (has(fit, other) && now.page.kinds[other].riseOf(tall, o, tab) == rise) {
-                    alike++;
-                }
-            }
             if (has(fit, one)) {
-                most = Math.max(most, alike);
+                int rise = now.page.kinds[one].riseOf(tall, o, tab);
+                most = Math.max(most, manyThatRise(rise, fit, tall, o, tab));
             }
         }
         return most;
+    }
+
+    private int manyThatRise(int rise, int fit, int tall, int o, int tab) {
+        int many = 0;
+        for (int kind = 0; kind < KINDS; kind++) {
+            if (has(fit, kind) && now.page.kinds[kind].riseOf(tall, o, tab) == rise) {
+                many++;
+            }
+        }
+        return many;
     }
 
     private boolean trialStandsSo() {
@@ -1167,7 +1171,7 @@ public final class StandUpBook {
                 }
                 items++;
             }
-            return fault == NONE ? items : READ_NOTHING - fault;
+            return fault == NONE ? items : FAULT_AT_0 - fault;
         }
 
         private void tellBook(Page page) {

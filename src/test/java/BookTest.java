@@ -136,6 +136,8 @@ public final class BookTest {
         due.is("count(2)", x.count(2), 7);
         due.is("of(0, 0)", x.of(0, 0), 5);
         due.is("of(0, 5)", x.of(0, 5), 3);
+        due.is("pulled to and fro", Due.readText(x, "book 7;piece 0 1 1 0;pull 0 2;pull 0 0;"), 4);
+        due.is("of(0, 5)", x.of(0, 5), 0);
         String full = "book 9;piece 0 1 2 3;on 1 2 3 4 0;on 2 3 4 5 1;piece 3 4 5 6;piece 4 5 6 7;piece 5 6 7 8;"
                 + "on 0 7 8 9 5;";
         due.is("seven pieces", Due.readText(x, full), 8);
@@ -191,6 +193,9 @@ public final class BookTest {
     private static void readFaultsAtWords() {
         fault("books 6;", 0);
         fault("boo", 0);
+        fault("cook 6;", 0);
+        fault("booka 6;", 0);
+        fault("bookz 6;", 0);
         fault(" Book 6;", 1);
         fault("piece 0 1 1 0;book 6;", 0);
         fault("6;", 0);
@@ -213,6 +218,7 @@ public final class BookTest {
         fault("book 6;piece 0 1 1;", 18);
         fault("book 6;pull;", 11);
         fault("book 6;open 3 pull", 14);
+        fault("book 6;open 3;open open;", 19);
     }
 
     private static void readFaultsAtNumbers() {

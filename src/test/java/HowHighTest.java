@@ -133,6 +133,10 @@ public final class HowHighTest {
         due.is("out(0)", x.out(0), 3);
         x.piece(3, 1, 1, 0, 1);
         due.is("out(1): 41", x.out(1), NONE);
+        x = Due.told("book 6;piece 3 9 1 0;on 3 9 1 0 0;on 3 9 1 0 1;on 3 9 1 0 2;on 3 9 1 0 3;on 3 9 1 0 4;"
+                + "on 3 9 1 0 5;");
+        due.is("out(0) of seven ON one another", x.out(0), 64);
+        due.is("out(1) of seven ON one another", x.out(1), 7);
     }
 
     private static void way(String name, StandUpBook x, int pieces, long... want) {
