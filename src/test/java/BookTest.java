@@ -17,6 +17,7 @@ public final class BookTest {
         readFaultsAtNumbers();
         readFaultsAtEnds();
         readFaultKeepsAll();
+        readOfClearedAndFullTexts();
         due.end();
     }
 
@@ -267,5 +268,18 @@ public final class BookTest {
         due.unchanged("read", x, before);
         due.status(x, 0, 0, 0);
         due.is("undo()", x.undo(), 0);
+    }
+
+    private static void readOfClearedAndFullTexts() {
+        StandUpBook x = new StandUpBook();
+        due.is("read", Due.readText(x, "book 6;openx"), -17);
+        due.is("what was cleared stands no more", Due.readText(x, "book 6;open"), -21);
+        due.is("read", Due.readText(x, "book 6;open 12;"), 2);
+        due.is("what was cleared stands no more", Due.readText(x, "book 6;open 1"), -23);
+        due.is("150 letters", Due.readText(x, "x".repeat(150)), -10);
+        due.is("145 figures", Due.readText(x, "book " + "1".repeat(145)), -15);
+        due.is("150 blanks", Due.readText(x, " ".repeat(150)), -160);
+        due.is("a book of 150 bytes", Due.readText(x, " ".repeat(143) + "book 9;"), 1);
+        due.is("count(2)", x.count(2), 9);
     }
 }
