@@ -150,6 +150,7 @@ public final class BookTest {
         due.is("of(2, 4)", x.of(2, 4), 1);
         due.is("of(3, 4)", x.of(3, 4), NONE);
         due.is("the same text again", x.read(), 8);
+        x = new StandUpBook();
         due.is("an eighth piece", Due.readText(x, full + "piece 0 1 1 0;"), -10 - full.length());
         due.is("an eighth on", Due.readText(x, full + "on 0 1 1 0 0;"), -10 - full.length());
         due.is("an eighth on, cut", Due.readText(x, full + " on"), -11 - full.length());
@@ -276,8 +277,10 @@ public final class BookTest {
         due.is("what was cleared stands no more", Due.readText(x, "book 6;open"), -21);
         due.is("read", Due.readText(x, "book 6;open 12;"), 2);
         due.is("what was cleared stands no more", Due.readText(x, "book 6;open 1"), -23);
+        x = new StandUpBook();
         due.is("150 letters", Due.readText(x, "x".repeat(150)), -10);
         due.is("145 figures", Due.readText(x, "book " + "1".repeat(145)), -15);
+        x = new StandUpBook();
         due.is("150 blanks", Due.readText(x, " ".repeat(150)), -160);
         due.is("a book of 150 bytes", Due.readText(x, " ".repeat(143) + "book 9;"), 1);
         due.is("count(2)", x.count(2), 9);

@@ -64,6 +64,12 @@ public final class EdgesOfChanceTest {
         pairs(due, Due.told("book 20;piece 0 1 1 0;"), 0, 1, 2, 3, 13, 14, 15, 16, 26, 27, 28, 29, 39, 40, 41, 42);
     }
 
+    static void p28_whereItCostsAsMuchAsItGivesBothRest(Due due) {
+        // A TENT 1 TALL is SEEN and 1 high from 6 on, 2 at 12: 1 - 1 at 6 and 7 is no more and no less than 0.
+        pairs(due, Due.told("book 20;piece 1 1 1 0;"), 0, 1, 2, 3, 6, 7, 13, 14, 15, 16, 19, 20, 26, 27, 28, 29, 32, 33,
+                39, 40, 41, 42, 45, 46, 78, 79, 80, 81, 91, 92, 93, 94);
+    }
+
     static void p28_howItIsOpenNowDoesNotMatter(Due due) {
         pairs(due, Due.told("book 20;piece 2 1 9 0;open 12;"), 6, 19, 32, 45);
     }

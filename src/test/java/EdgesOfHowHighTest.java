@@ -436,6 +436,17 @@ public final class EdgesOfHowHighTest {
         due.is("out(1)", x.out(1), NONE);
     }
 
+    static void p17_sevenOnOneAnotherReachTogether(Due due) {
+        // FLAPs 1 TALL reach 1 each: the seventh alone is out of a page of 6.
+        StandUpBook x = new StandUpBook();
+        x.book(6);
+        for (int i = 0; i < 7; i++) {
+            x.piece(3, 9, 1, 0, i - 1);
+        }
+        due.is("out(0)", x.out(0), 64);
+        due.is("out(1)", x.out(1), 7);
+    }
+
     static void p17_stuckOnesReachAsTold(Due due) {
         StandUpBook x = Due.told("book 11;piece 5 9 9 0;");
         Due.openToAndFro(x, 7);

@@ -273,6 +273,15 @@ public final class EdgesOfOpeningsTest {
         due.bad(x, "of(3, 0)", () -> x.of(3, 0));
     }
 
+    static void p09_whatIsOnOneAheadOfItStaysOnThat(Due due) {
+        StandUpBook x = Due.told("book 20;piece 0 1 1 0;piece 1 1 1 0;piece 2 1 1 0;on 3 1 1 0 0;on 4 1 1 0 1;");
+        due.is("tears(2)", x.tears(2), 1);
+        due.is("of(0, 4)", x.of(0, 4), NONE);
+        due.is("of(1, 4)", x.of(1, 4), NONE);
+        due.all("of(2, ..)", Due.ofAll(x, 2), 3, 1, 1, 0, 0, 0, 0, 0);
+        due.all("of(3, ..)", Due.ofAll(x, 3), 4, 1, 1, 0, 1, 0, 0, 0);
+    }
+
     static void p09_theOpeningAndThePageStay(Due due) {
         StandUpBook x = Due.told("book 33;piece 0 1 1 0;open 7;");
         x.tears(0);

@@ -104,6 +104,8 @@ public final class EdgesOfReadTest {
         fault(due, "book 20;onn 0 1 1 0;", 8);
         fault(due, "book 20; opens 3;", 9);
         fault(due, "book 20;piece 0 1 1 0;pulls 0 1;", 22);
+        fault(due, "booka 20;", 0);
+        fault(due, "book 20;openz 3;", 8);
         fault(due, "book 20;a", 8);
         fault(due, "book 20;z", 8);
     }

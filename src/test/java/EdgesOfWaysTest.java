@@ -251,6 +251,11 @@ public final class EdgesOfWaysTest {
         turnsOf(due, FOUR, 2, 1, NOW, NOW, NOW, NOW, NOW, NOW, NOW, NOW, NOW, NOW, NOW, 10);
     }
 
+    static void p21_neverBelow0(Due due) {
+        // SEEN from 2 on: from 0 and from 1 there is no other way out.
+        turnsOf(due, "book 20;piece 0 1 6 0;", 0, 2, 2, NOW, NOW, NOW, NOW, NOW, NOW, NOW, NOW, NOW, NOW, NOW);
+    }
+
     static void p21_ofSeveralTheLeast(Due due) {
         // SEEN at 11 and 12: from 10 both win at once, but 8 wins, too.
         turnsOf(due, "book 20;piece 2 1 9 0;piece 0 1 3 1;", 1,

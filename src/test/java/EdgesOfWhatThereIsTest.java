@@ -216,6 +216,23 @@ public final class EdgesOfWhatThereIsTest {
         due.no(x, "undo()", x::undo);
     }
 
+    static void p33_whatMayBeUndoneIsTheImagesAlsoBehindOtherOpenings(Due due) {
+        StandUpBook x = Due.told("book 20;piece 0 1 9 0;");
+        for (int o = 1; o <= 6; o++) {
+            x.opens(o);
+        }
+        x.image(0);
+        for (int o = 12; o >= 7; o--) {
+            x.opens(o);
+        }
+        due.is("from(0)", x.from(0), 1);
+        for (int o = 5; o >= 0; o--) {
+            due.is("undo()", x.undo(), o);
+            due.is("WEAR", x.of(0, 6), o);
+        }
+        due.no(x, "undo()", x::undo);
+    }
+
     static void p33_theTextTheFractionAndStatusStay(Due due) {
         StandUpBook x = Due.told("book 20;piece 0 1 9 0;");
         x.image(0);
