@@ -46,7 +46,7 @@ public final class EdgesOfChanceTest {
     }
 
     static void p28_oneThatIsHighestAt6(Due due) {
-        // A BOX 9 TALL: the second one gets 9 - 1 at 6, 7 - 1 at 5 and 7, 6 - 1 at 4, 4 at 3; the first one 1 for 0 .. 3.
+        // A BOX 9 TALL: the second one gets 9 - 1 at 6, 7 - 1 at 5 and 7, less elsewhere; the first one 1 for 0 .. 3.
         pairs(due, Due.told("book 20;piece 2 1 9 0;"), 6, 19, 32, 45);
     }
 
