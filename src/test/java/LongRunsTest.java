@@ -11,16 +11,17 @@ public final class LongRunsTest {
 
     /**
      * Each call with what its numbers may be: w WIDE, k KIND, a ARM, t TALL, r ROW, n ON, c a byte, o an opening,
-     * O 0 or 12, the farther one, i a PIECE, p a TAB, x ROSE, b PIECES as bits, g which one (NONE .. 14), s SEED, m READERS, d ODDS,
-     * a figure: 0 to it.
+     * O 0 or 12, the farther one, i a PIECE, p a TAB, x ROSE, b PIECES as bits, g which one (NONE .. 14), s SEED,
+     * m READERS, d ODDS, a figure: 0 to it.
      */
-    private static final String[] EVERY = {"book w", "piece k a t r n", "type c", "clear", "read", "opens o", "pulls i p",
-        "tears i", "undo", "of i 7", "gives i o 2", "height i o", "seen o", "first i", "best 1", "out 1", "tour b g",
-        "place i o 1", "lasts", "turns i 1", "note i t o p x", "stood o b", "forget 1", "is i", "look i", "where i 1",
-        "seats g", "sticks o d", "readers s m", "part 1", "image 1", "from 1", "status 2", "count 9", "digest"};
-    private static final String[] WEARING = {"opens O", "opens O", "opens O", "opens O", "opens O", "opens o", "opens o",
-        "seen o", "height i o", "of i 7", "lasts", "readers s m", "sticks o d", "first i", "tour b g", "turns i 1",
-        "place i o 1", "seats g", "best 1", "count 9", "where i 1"};
+    private static final String[] EVERY = {"book w", "piece k a t r n", "type c", "clear", "read", "opens o",
+        "pulls i p", "tears i", "undo", "of i 7", "gives i o 2", "height i o", "seen o", "first i", "best 1", "out 1",
+        "tour b g", "place i o 1", "lasts", "turns i 1", "note i t o p x", "stood o b", "forget 1", "is i", "look i",
+        "where i 1", "seats g", "sticks o d", "readers s m", "part 1", "image 1", "from 1", "status 2", "count 9",
+        "digest"};
+    private static final String[] WEARING = {"opens O", "opens O", "opens O", "opens O", "opens O", "opens o",
+        "opens o", "seen o", "height i o", "of i 7", "lasts", "readers s m", "sticks o d", "first i", "tour b g",
+        "turns i 1", "place i o 1", "seats g", "best 1", "count 9", "where i 1"};
     private static final String[] TEARING = {"piece k a t r n", "piece k a t r n", "piece k a t r n", "tears i", "undo",
         "undo", "undo", "opens o", "opens o", "opens o", "pulls i p", "pulls i p", "pulls i p", "image 1", "from 1",
         "out 1", "of i 7", "count 9", "note i t o p x", "stood o b", "digest"};

@@ -35,7 +35,8 @@ public final class ReadmeTest {
         String java = Path.of(System.getProperty("java.home"), "bin", "java").toString();
         // Watched, so that no process is left behind where a call does not end.
         String path = folder + System.getProperty("path.separator") + System.getProperty("java.class.path");
-        Process process = new ProcessBuilder(java, "-cp", path, "Watched", "60", "Example").redirectErrorStream(true).start();
+        Process process = new ProcessBuilder(java, "-cp", path, "Watched", "60", "Example")
+                .redirectError(ProcessBuilder.Redirect.INHERIT).start();
         String printed = new String(process.getInputStream().readAllBytes(), StandardCharsets.UTF_8);
         due.is("exit code of the example", process.waitFor(), 0);
         return printed;

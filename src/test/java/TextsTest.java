@@ -126,7 +126,8 @@ public final class TextsTest {
             case 2: return ahead + "0123456789; abeiklnopu".charAt(random.nextInt(22)) + text.substring(at + 1);
             case 3: return ahead;
             case 4: return text + (random.nextBoolean() ? "piece 0 1 1 1;" : "book 20;");
-            default: return text.substring(0, text.lastIndexOf(';', at) + 1) + text.substring(text.indexOf(';', at) + 1);
+            default:
+                return text.substring(0, text.lastIndexOf(';', at) + 1) + text.substring(text.indexOf(';', at) + 1);
         }
     }
 }

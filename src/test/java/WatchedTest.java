@@ -25,7 +25,8 @@ public final class WatchedTest {
         command.add("-cp");
         command.add(System.getProperty("java.class.path"));
         command.addAll(List.of("Watched", seconds, test));
-        Process process = new ProcessBuilder(command).redirectErrorStream(true).start();
+        // What java itself says there is of no interest: that it was told options, or what was thrown.
+        Process process = new ProcessBuilder(command).redirectError(ProcessBuilder.Redirect.DISCARD).start();
         String printed = new String(process.getInputStream().readAllBytes(), StandardCharsets.UTF_8);
         due.is("exit code of " + test + ", that printed " + printed, process.waitFor(), exitCode);
         return printed;
