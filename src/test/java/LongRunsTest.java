@@ -28,9 +28,8 @@ public final class LongRunsTest {
     private static final String[] GUESSING = {"note i t o p x", "stood o b", "is i", "look i", "where i 1", "where i 1",
         "forget 1", "opens o", "pulls i p", "seen o", "count 9", "image 1", "from 1"};
 
-    private static final int[] ODD_ONES = {Integer.MIN_VALUE, Integer.MIN_VALUE + 1, -129, -11, -10, -5, -4, -3, -2, -1,
-        0, 1, 7, 10, 13, 31, 32, 33, 41, 61, 64, 128, 169, 256, 1000000, 1 << 30, Integer.MAX_VALUE - 1,
-        Integer.MAX_VALUE};
+    private static final int[] ODD_ONES = {Integer.MIN_VALUE, Integer.MIN_VALUE + 1, -129, 21, 31, 32, 33, 41, 61, 64,
+        128, 169, 256, 1000000, 1 << 30, Integer.MAX_VALUE - 1, Integer.MAX_VALUE};
 
     private final Random random;
     private final Pair pair;
@@ -55,7 +54,7 @@ public final class LongRunsTest {
             one("piece k a t r n", false);
         }
         while (pair.callsLeft() > LAST_CALLS) {
-            one(calls[random.nextInt(calls.length)], random.nextInt(25) == 0);
+            one(calls[random.nextInt(calls.length)], random.nextInt(15) == 0);
         }
         pair.callForAll();
         if (pair.callsLeft() != 0) {
@@ -75,9 +74,14 @@ public final class LongRunsTest {
             numbers[1] = pair.plainSeen(numbers[0]);
         }
         if (oddly && numbers.length > 0) {
-            numbers[random.nextInt(numbers.length)] = ODD_ONES[random.nextInt(ODD_ONES.length)];
+            numbers[random.nextInt(numbers.length)] = oddOne();
         }
         pair.call(parts[0], numbers);
+    }
+
+    /** As told or not: mostly near the bounds that most numbers have. */
+    private int oddOne() {
+        return random.nextInt(3) > 0 ? from(-11, 14) : ODD_ONES[random.nextInt(ODD_ONES.length)];
     }
 
     private int some(char sort) {
